@@ -1,0 +1,106 @@
+import java.io.IOException;
+import java.lang.reflect.Constructor;
+import java.lang.reflect.Field;
+import java.lang.reflect.Method;
+import java.lang.reflect.Modifier;
+import java.nio.file.Files;
+import java.nio.file.Path;
+import java.util.Set;
+import java.util.TreeSet;
+
+/** The public face, and the rules of LANGUAGE.md that a look at the class or its text can find. */
+final class FaceTest {
+    private static final Check check = new Check();
+
+    private static final String[] METHODS = {
+        "int setBridges(int)", "int setTimes(int,int,int)", "int setPriority(int,int)",
+        "int addLink(int,int,int)", "int fail(int)", "int fix(int)", "int moveHost(int,int)",
+        "int bid(int,int,int)", "int grant(int,int)", "int tick(int)", "int time()",
+        "int send(int,int)", "int bridge(int,int)", "int links()", "int link(int,int)",
+        "int port(int,boolean,int)", "int entry(int,int)", "int tenant(int,int)",
+        "int bidOf(int,int)", "int count(int)", "boolean isForest()", "int type(int)",
+        "int clearScript()", "int run()", "int undo()", "long digest()"
+    };
+
+    public static void main(String[] args) throws IOException, ReflectiveOperationException {
+        int flags = BridgeAuction.class.getModifiers();
+        check.due("public final class", Modifier.isPublic(flags) && Modifier.isFinal(flags), true);
+        Constructor<?>[] made = BridgeAuction.class.getDeclaredConstructors();
+        check.due("constructors", made.length, 1);
+        check.due("public BridgeAuction()",
+                Modifier.isPublic(made[0].getModifiers()) && made[0].getParameterCount() == 0, true);
+        checkMethods();
+        checkFields();
+        checkNested();
+        checkText();
+        check.finish();
+    }
+
+    private static String shape(Method m) {
+        StringBuilder text = new StringBuilder(m.getReturnType() + " " + m.getName() + "(");
+        for (int i = 0; i < m.getParameterCount(); i++) {
+            text.append(i == 0 ? "" : ",").append(m.getParameterTypes()[i]);
+        }
+        return text.append(")").toString();
+    }
+
+    private static void checkMethods() {
+        Set<String> want = new TreeSet<>(Set.of(METHODS));
+        Set<String> got = new TreeSet<>();
+        Set<String> names = new TreeSet<>();
+        for (Method m : BridgeAuction.class.getDeclaredMethods()) {
+            if (!Modifier.isPrivate(m.getModifiers())) {
+                got.add(shape(m));
+                names.add(m.getName());
+            }
+        }
+        check.due("methods of the face " + got, got.equals(want), true);
+        for (Method m : BridgeAuction.class.getDeclaredMethods()) {
+            if (Modifier.isPrivate(m.getModifiers())) {
+                check.due("the private name " + m.getName() + " is public", names.contains(m.getName()), false);
+            }
+        }
+    }
+
+    private static void checkFields() throws ReflectiveOperationException {
+        String[] names = {"NONE", "ROOT", "DESIGNATED", "ALTERNATE", "BLOCKING", "LISTENING", "LEARNING",
+            "FORWARDING"};
+        int[] values = {-1, 0, 1, 2, 0, 1, 2, 3};
+        for (int i = 0; i < names.length; i++) {
+            Field f = BridgeAuction.class.getDeclaredField(names[i]);
+            int flags = f.getModifiers();
+            check.due("public static final " + names[i],
+                    Modifier.isPublic(flags) && Modifier.isStatic(flags) && Modifier.isFinal(flags), true);
+            check.due(names[i], f.getInt(null), values[i]);
+        }
+        int open = 0;
+        for (Field f : BridgeAuction.class.getDeclaredFields()) {
+            open += Modifier.isPrivate(f.getModifiers()) ? 0 : 1;
+        }
+        check.due("fields that are not private", open, names.length);
+    }
+
+    private static void checkNested() {
+        Class<?>[] nested = BridgeAuction.class.getDeclaredClasses();
+        check.due("at most twelve classes", nested.length + 1 <= 12, true);
+        for (Class<?> c : nested) {
+            check.due(c + " is static", Modifier.isStatic(c.getModifiers()), true);
+            check.due(c + " is open",
+                    Modifier.isPublic(c.getModifiers()) || Modifier.isProtected(c.getModifiers()), false);
+            for (Field f : c.getDeclaredFields()) {
+                int flags = f.getModifiers();
+                check.due(f + " is static and not final",
+                        Modifier.isStatic(flags) && !Modifier.isFinal(flags), false);
+            }
+        }
+    }
+
+    private static void checkText() throws IOException {
+        String text = Files.readString(Path.of("src/main/java/BridgeAuction.java"));
+        String[] words = {"import ", "->", "::", "catch", "try ", "finally", "synchronized", "assert ",
+            "package ", "Exact(", "double", "float"};
+        for (String word : words) {
+            check.due("the text has '" + word + "'", text.contains(word), false);
+        }
+    }
+}
