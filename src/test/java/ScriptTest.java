@@ -46,7 +46,7 @@ final class ScriptTest {
         fault("tick ", 5);
         fault("tick;", 4);
         fault("tick ;", 5);
-        fault("tick1;", 0 + 4);
+        fault("tick1;", 4);
         fault("tick 1", 6);
         fault("tick 1 ", 7);
         fault("tick 1 2;", 7);
@@ -59,6 +59,9 @@ final class ScriptTest {
         fault("ti", 0);
         fault("t", 0);
         fault("ticks 1;", 0);
+        fault("tickz 1;", 0);
+        fault("ticka 1;", 0);
+        fault("zick 1;", 0);
         fault("ticktick 1;", 0);
         fault("li nk", 0);
         fault("bidd 1 1 1;", 0);

@@ -60,6 +60,8 @@ final class SetUpTest {
         x.bid(2, 0, 9);
         x.grant(1, 50);
         x.moveHost(3, 0);
+        x.moveHost(0, 3);
+        x.bid(0, 0, 1);
         x.tick(14);
         x.send(0, 1);
         x.fail(0);
@@ -150,7 +152,9 @@ final class SetUpTest {
         }
         check.refused("addLink(4, 4, 0)", x, INDEX, () -> x.addLink(4, 4, 0));
         check.refused("addLink(0, 4, 1)", x, INDEX, () -> x.addLink(0, 4, 1));
+        check.refused("addLink(4, 0, 1)", x, INDEX, () -> x.addLink(4, 0, 1));
         check.refused("addLink(-1, 0, 1)", x, INDEX, () -> x.addLink(-1, 0, 1));
+        check.refused("addLink(0, -1, 1)", x, INDEX, () -> x.addLink(0, -1, 1));
         check.refused("addLink(2, 2, 1)", x, ARGUMENT, () -> x.addLink(2, 2, 1));
         check.refused("addLink(0, 1, 0)", x, ARGUMENT, () -> x.addLink(0, 1, 0));
         check.refused("addLink(0, 1, 101)", x, ARGUMENT, () -> x.addLink(0, 1, 101));
@@ -248,5 +252,6 @@ final class SetUpTest {
         check.refused("grant(0, 1)", x, STATE, () -> x.grant(0, 1));
         check.due("grant(0, 0)", x.grant(0, 0), 1000000);
         check.due("another tenant", x.tenant(1, 0), 100);
+        check.due("grant(3, 5)", x.grant(3, 5), 105);
     }
 }

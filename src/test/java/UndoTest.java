@@ -4,6 +4,7 @@ final class UndoTest {
 
     public static void main(String[] args) {
         everyUndoableCall();
+        everyRowComesBack();
         depth();
         scriptStays();
         digestOfANewObject();
@@ -61,6 +62,55 @@ final class UndoTest {
             case 10: return x.send(1, 0);
             default: return x.run();
         }
+    }
+
+    /** A whole other network takes the place of the busy one and is undone. */
+    private static void everyRowComesBack() {
+        BridgeAuction x = busy();
+        BridgeAuction y = busy();
+        x.tick(12);
+        y.tick(12);
+        check.due("setBridges", x.setBridges(7), 4);
+        Check.runText(x, "link 5 6 99;link 4 6 98;prio 0 1;prio 1 1;prio 2 1;host 0 6;bid 1 0 3;bid 3 1 80;"
+                + "bid 0 1 60;tick 10;fail 1;tick 1;");
+        x.undo();
+        check.due("undo", x.undo(), 1);
+        y.grant(0, 0);
+        y.grant(0, 0);
+        y.undo();
+        y.undo();
+        check.due("digest", x.digest(), y.digest());
+        x.tick(9);
+        y.tick(9);
+        check.due("digest later", x.digest(), y.digest());
+        check.due("send", x.send(0, 2), y.send(0, 2));
+        x.tick(50);
+        y.tick(50);
+        check.due("digest when the entries are old", x.digest(), y.digest());
+        x.send(2, 0);
+        x.tick(30);
+        x.send(2, 0);
+        x.undo();
+        x.tick(21);
+        check.due("the time of an entry comes back too", x.entry(0, 2), BridgeAuction.NONE);
+        // A link takes the place of one that was used and undone.
+        x.setBridges(3);
+        y.setBridges(3);
+        x.addLink(0, 1, 9);
+        x.addLink(1, 2, 9);
+        x.bid(0, 0, 7);
+        x.bid(0, 1, 7);
+        Check.runText(x, "tick 5;tick 6;fail 1;");
+        x.undo();
+        x.undo();
+        x.undo();
+        x.setBridges(3);
+        x.addLink(1, 2, 9);
+        x.addLink(0, 2, 9);
+        y.setBridges(3);
+        y.addLink(1, 2, 9);
+        y.addLink(0, 2, 9);
+        check.due("digest with new links", x.digest(), y.digest());
     }
 
     private static void depth() {
