@@ -343,6 +343,7 @@ final class EdgeAuctionTest {
         for (int i = 0; i < cost.length; i++) {
             x.tick(10);
             check.due("cost in auction " + (i + 1), x.link(0, 3), cost[i]);
+            check.due("base cost in auction " + (i + 1), x.link(0, 2), 10);
             check.due("in a row in auction " + (i + 1), x.link(0, 8), row[i]);
         }
     }
@@ -426,7 +427,7 @@ final class EdgeAuctionTest {
         check.due("floor(31 * 1 / 13)", y.fail(0), 2);
         BridgeAuction z = sale(31);
         z.tick(12);
-        z.setTimes(3, 100, 5);
+        z.setTimes(3, 100, 0);
         check.due("floor(31 * 88 / 100)", z.fail(0), 27);
     }
 

@@ -109,7 +109,7 @@ final class EdgeNetworkTest {
         BridgeAuction x = Recipe.busy();
         check.due("root before", x.bridge(2, 1), 50);
         check.due("setPriority(2, 5)", x.setPriority(2, 5), 5);
-        int[] anew = {52, 52, 0, 0, NONE, 1};
+        int[] anew = {52, 52, 0, 0, NONE, 2};
         for (int what = 0; what < 6; what++) {
             check.due("bridge(2, " + what + ")", x.bridge(2, what), anew[what]);
         }
@@ -317,6 +317,7 @@ final class EdgeNetworkTest {
     /** Links that were won, that had waited for another cost, and whose ports listened or forwarded. */
     private static void linksThatAreAddedThenAreNew() {
         BridgeAuction x = new BridgeAuction();
+        x.setTimes(20, 10, 5);
         for (int link = 0; link < 16; link++) {
             x.addLink(1, 2, 9);
             for (int tenant = 0; tenant < 4; tenant++) {

@@ -275,6 +275,8 @@ final class EdgeScriptTest {
     private static void greatestNumbersOfEveryCommand() {
         BridgeAuction x = new BridgeAuction();
         check.due("run", Check.runText(x, "link 3 0 100;bid 3 0 1000;prio 3 9;host 7 0;tick 200;fail 0;fix 0;"), 7);
+        check.due("lower bridge", x.link(0, 0), 0);
+        check.due("higher bridge", x.link(0, 1), 3);
         check.due("cost", x.link(0, 2), 100);
         check.due("bid", x.bidOf(3, 0), 1000);
         check.due("priority", x.setPriority(3, 9), 9);
@@ -286,6 +288,11 @@ final class EdgeScriptTest {
         check.due("priority", x.setPriority(0, 0), 0);
         check.due("host", x.moveHost(0, 3), 3);
         check.due("time", x.time(), 201);
+        check.due("run", Check.runText(x, "fail 1;fail 0;fix 1;"), 3);
+        check.due("link 0 is down", x.link(0, 4), 0);
+        check.due("link 1 is up", x.link(1, 4), 1);
+        check.due("run", Check.runText(x, "fix 1;"), 0);
+        check.due("run", Check.runText(x, "fail 0;"), 0);
     }
 
     private static void stops(String command) {

@@ -1,4 +1,5 @@
 import java.math.BigInteger;
+import java.util.ArrayList;
 import java.util.List;
 
 /**
@@ -102,53 +103,40 @@ final class EdgeUndoTest {
     /** "The saved state is the one from before the call." */
     private static void everyUndoableCallComesBackWhole() {
         List<Recipe.Call> calls = List.of(x -> x.setBridges(2), x -> x.setBridges(8), x -> x.setTimes(20, 100, 0),
-                x -> x.setPriority(1, 0), x -> x.addLink(0, 3, 100), x -> x.fail(0), x -> x.fix(2),
-                x -> x.moveHost(7, 0), x -> x.bid(3, 2, 1000), x -> x.grant(3, 10000), x -> x.tick(1),
+                x -> x.setPriority(1, 0), x -> x.addLink(0, 3, 100), x -> x.fail(0), x -> x.fix(3),
+                x -> x.moveHost(7, 0), x -> x.bid(3, 3, 1000), x -> x.grant(3, 10000), x -> x.tick(1),
                 x -> x.tick(200), x -> x.send(0, 3), x -> x.send(4, 0), x -> x.run());
-        List<Long> due = Traces.of(EdgeUndoTest::busyWithOneStateFewer);
+        List<Integer> due = toldOverTime(Recipe.busy());
         for (int i = 0; i < calls.size(); i++) {
-            Recipe.Call call = calls.get(i);
-            List<Long> told = Traces.of(() -> {
-                BridgeAuction x = Recipe.busy();
-                call.on(x);
-                x.undo();
-                return x;
-            });
-            check.due("undo of call " + i + " brings all back", told.equals(due), true);
+            BridgeAuction x = Recipe.busy();
+            calls.get(i).on(x);
+            x.undo();
+            check.due("undo of call " + i + " brings all back", toldOverTime(x).equals(due), true);
         }
     }
 
-    /** A call that is undone has dropped the oldest of three states. */
-    private static BridgeAuction busyWithOneStateFewer() {
-        BridgeAuction x = Recipe.busy();
-        x.grant(0, 0);
-        x.undo();
-        return x;
+    /** All values of the face, then and when the entries, timers and auctions have gone on. */
+    private static List<Integer> toldOverTime(BridgeAuction x) {
+        List<Integer> told = new ArrayList<>();
+        int[] ticks = {1, 5, 30, 1, 1, 13, 1, 1};
+        Traces.tellValues(x, told);
+        for (int some : ticks) {
+            x.tick(some);
+            Traces.tellValues(x, told);
+        }
+        return told;
     }
 
     private static void linksComeBackAfterOtherLinks() {
-        List<Long> told = Traces.of(() -> {
-            BridgeAuction x = Recipe.busy();
-            x.setBridges(8);
-            x.addLink(6, 7, 99);
-            x.addLink(5, 4, 98);
-            return undoThree(x);
-        });
-        List<Long> due = Traces.of(() -> {
-            BridgeAuction x = Recipe.busy();
-            x.grant(0, 0);
-            x.grant(0, 0);
-            x.grant(0, 0);
-            return undoThree(x);
-        });
-        check.due("a network comes back after another one", told.equals(due), true);
-    }
-
-    private static BridgeAuction undoThree(BridgeAuction x) {
+        BridgeAuction x = Recipe.busy();
+        x.setBridges(8);
+        x.addLink(6, 7, 99);
+        x.addLink(5, 4, 98);
         x.undo();
         x.undo();
         x.undo();
-        return x;
+        check.due("a network comes back after another one",
+                toldOverTime(x).equals(toldOverTime(Recipe.busy())), true);
     }
 
     private static void timersComeBack() {
@@ -221,7 +209,7 @@ final class EdgeUndoTest {
         BridgeAuction x = new BridgeAuction();
         x.addLink(0, 1, 10);
         x.bid(0, 0, 50);
-        x.bid(1, 0, 3);
+        x.bid(1, 0, 5);
         x.setTimes(20, 100, 0);
         x.undo();
         x.tick(1);
@@ -308,13 +296,13 @@ final class EdgeUndoTest {
     private static void hashOfABusyNetwork() {
         BridgeAuction x = Recipe.busy();
         Whole h = new Whole();
-        h.add(3, 17, 4, 14, 1, 10, 100);
+        h.add(3, 17, 4, 14, 1, 10, 20);
         h.addFace(x, 4, 0, 1, 2, 3, 0, 1, 2, 3);
         h.due("busy", x);
         x.moveHost(6, 0);
         x.tick(60);
         Whole later = new Whole();
-        later.add(3, 17, 4, 74, 1, 10, 100);
+        later.add(3, 17, 4, 74, 1, 10, 20);
         later.addFace(x, 4, 0, 1, 2, 3, 0, 1, 0, 3);
         later.due("busy, with entries that are not valid any more", x);
     }

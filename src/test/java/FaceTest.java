@@ -12,14 +12,16 @@ import java.util.TreeSet;
 final class FaceTest {
     private static final Check check = new Check();
 
+    /** IAE, IOOBE and ISE stand for the exceptions that a method tells of, in this order. */
     private static final String[] METHODS = {
-        "int setBridges(int)", "int setTimes(int,int,int)", "int setPriority(int,int)",
-        "int addLink(int,int,int)", "int fail(int)", "int fix(int)", "int moveHost(int,int)",
-        "int bid(int,int,int)", "int grant(int,int)", "int tick(int)", "int time()",
-        "int send(int,int)", "int bridge(int,int)", "int links()", "int link(int,int)",
-        "int port(int,boolean,int)", "int entry(int,int)", "int tenant(int,int)",
-        "int bidOf(int,int)", "int count(int)", "boolean isForest()", "int type(int)",
-        "int clearScript()", "int run()", "int undo()", "long digest()"
+        "int setBridges(int) IAE", "int setTimes(int,int,int) IAE", "int setPriority(int,int) IOOBE IAE",
+        "int addLink(int,int,int) IOOBE IAE ISE", "int fail(int) IOOBE ISE", "int fix(int) IOOBE ISE",
+        "int moveHost(int,int) IOOBE", "int bid(int,int,int) IOOBE IAE", "int grant(int,int) IOOBE IAE ISE",
+        "int tick(int) IAE", "int time()", "int send(int,int) IOOBE IAE", "int bridge(int,int) IOOBE IAE",
+        "int links()", "int link(int,int) IOOBE IAE", "int port(int,boolean,int) IOOBE IAE",
+        "int entry(int,int) IOOBE", "int tenant(int,int) IOOBE IAE", "int bidOf(int,int) IOOBE",
+        "int count(int) IAE", "boolean isForest()", "int type(int) IAE ISE", "int clearScript()", "int run()",
+        "int undo() ISE", "long digest()"
     };
 
     public static void main(String[] args) throws IOException, ReflectiveOperationException {
@@ -41,7 +43,11 @@ final class FaceTest {
         for (int i = 0; i < m.getParameterCount(); i++) {
             text.append(i == 0 ? "" : ",").append(m.getParameterTypes()[i]);
         }
-        return text.append(")").toString();
+        text.append(")");
+        for (Class<?> thrown : m.getExceptionTypes()) {
+            text.append(" ").append(thrown.getSimpleName().replaceAll("[a-z]", ""));
+        }
+        return text.toString();
     }
 
     private static void checkMethods() {

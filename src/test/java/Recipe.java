@@ -12,20 +12,30 @@ interface Recipe {
         return new BridgeAuction();
     }
 
-    /** Four bridges; link 2 is down, link 0 is won, tables have entries, and three states are saved. */
+    /**
+     * Four bridges, of which 0 to 2 are joined; link 2 has another cost than its base cost, link 3
+     * is down and its winner got something back, a frame was lost, and three states are saved.
+     */
     static BridgeAuction busy() {
         BridgeAuction x = new BridgeAuction();
-        x.setTimes(1, 10, 100);
+        x.setTimes(1, 10, 20);
+        x.setPriority(3, 7);
         x.addLink(0, 1, 5);
         x.addLink(1, 2, 7);
+        x.addLink(1, 0, 40);
         x.addLink(3, 2, 9);
-        x.bid(0, 0, 90);
-        x.bid(2, 0, 80);
+        x.bid(0, 0, 60);
+        x.bid(2, 0, 8);
+        x.bid(1, 2, 50);
+        x.bid(3, 2, 30);
+        x.bid(2, 3, 12);
+        x.bid(0, 3, 11);
         x.tick(12);
         x.send(0, 2);
         x.tick(2);
-        x.send(1, 0);
-        x.fail(2);
+        x.fail(3);
+        x.send(1, 3);
+        x.send(0, 1);
         Check.type(x, "host 0 2; tick 3;");
         return x;
     }

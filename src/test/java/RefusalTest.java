@@ -33,7 +33,7 @@ final class RefusalTest {
 
     public static void main(String[] args) {
         new RefusalTest(Recipe::empty, 4, BridgeAuction.NONE, 0, 0).everyCall();
-        new RefusalTest(Recipe::busy, 4, 2, 17, 3).everyCall();
+        new RefusalTest(Recipe::busy, 4, 3, 17, 3).everyCall();
         new RefusalTest(Recipe::full, 8, 15, 120, 3).everyCall();
         check.finish();
     }

@@ -27,6 +27,48 @@ final class Traces {
         return told;
     }
 
+    /** Every value that the face tells of the network, but for the number of saved states. */
+    static void tellValues(BridgeAuction x, List<Integer> told) {
+        told.add(x.time());
+        for (int bridge = 0; isThere(x, bridge); bridge++) {
+            for (int what = 0; what <= 5; what++) {
+                told.add(x.bridge(bridge, what));
+            }
+            for (int host = 0; host < 8; host++) {
+                told.add(x.entry(bridge, host));
+            }
+        }
+        for (int link = 0; link < x.links(); link++) {
+            for (int what = 0; what <= 8; what++) {
+                told.add(x.link(link, what));
+            }
+            for (int what = 0; what <= 2; what++) {
+                told.add(x.port(link, false, what));
+                told.add(x.port(link, true, what));
+            }
+            for (int tenant = 0; tenant < 4; tenant++) {
+                told.add(x.bidOf(tenant, link));
+            }
+        }
+        for (int tenant = 0; tenant < 4; tenant++) {
+            for (int what = 0; what <= 3; what++) {
+                told.add(x.tenant(tenant, what));
+            }
+        }
+        for (int what = 0; what <= 6; what++) {
+            told.add(x.count(what));
+        }
+    }
+
+    private static boolean isThere(BridgeAuction x, int bridge) {
+        try {
+            x.bridge(bridge, 0);
+            return true;
+        } catch (IndexOutOfBoundsException e) {
+            return false;
+        }
+    }
+
     private static void tellTicks(BridgeAuction x, List<Long> told) {
         told.add(x.digest());
         for (int ticks : TICKS) {
