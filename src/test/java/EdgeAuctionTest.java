@@ -15,6 +15,7 @@ final class EdgeAuctionTest {
         multiplesOfANewInterval();
         decayIsRoundedDown();
         decayOfAMillion();
+        decayComesToRest();
         bidsOfZeroDoNotCount();
         bidsUpToTheCreditsCount();
         creditsAfterTheDecay();
@@ -130,6 +131,21 @@ final class EdgeAuctionTest {
         x.bid(3, 15, 0);
         x.tick(8);
         check.due("floor(9 * 1000000 / 10) + 20", x.tenant(3, 0), 900020);
+    }
+
+    /** From below at 191, of which 171.9 is rounded down; from above at 200, which is 180 + 20. */
+    private static void decayComesToRest() {
+        BridgeAuction x = new BridgeAuction();
+        x.setTimes(3, 5, 5);
+        x.grant(1, 10000);
+        for (int i = 0; i < 5; i++) {
+            x.tick(200);
+        }
+        check.due("from below", x.tenant(0, 0), 191);
+        check.due("from above", x.tenant(1, 0), 200);
+        x.tick(5);
+        check.due("from below, then", x.tenant(0, 0), 191);
+        check.due("from above, then", x.tenant(1, 0), 200);
     }
 
     /** "the bid of a tenant counts if it is greater than 0" */

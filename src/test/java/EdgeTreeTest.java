@@ -18,6 +18,7 @@ final class EdgeTreeTest {
     public static void main(String[] args) {
         leastAndGreatestTicks();
         ticksOutOfRange();
+        theLongestLife();
         firstVectors();
         vectorsOfTheTickBefore();
         ageNineGoesOnAndAgeTenDoesNot();
@@ -76,6 +77,23 @@ final class EdgeTreeTest {
             check.refused("tick(" + ticks + ")", x, ARGUMENT, () -> x.tick(ticks));
         }
         check.due("time", x.time(), 0);
+    }
+
+    /** "An object is used for at most 512 calls": no more ticks than these can pass in it. */
+    private static void theLongestLife() {
+        BridgeAuction x = new BridgeAuction();
+        x.addLink(0, 1, 1);
+        Check.type(x, "tick 200;".repeat(13));
+        int calls = 1 + 117;
+        int time = 0;
+        while (calls + 5 < 512) {
+            check.due("run", x.run(), 13);
+            time += 13 * 200;
+            calls++;
+        }
+        check.due("time", x.time(), time);
+        check.due("auctions", x.count(0), time / 10);
+        port(x, 0, true, ROOT, FORWARDING, 0);
     }
 
     /** "At first, and when it is started anew, this is its own id, 0, 0, none." */
