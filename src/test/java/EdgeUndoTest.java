@@ -19,6 +19,7 @@ final class EdgeUndoTest {
         everyUndoableCallComesBackWhole();
         linksComeBackAfterOtherLinks();
         timersComeBack();
+        timesOfEntriesComeBack();
         otherCallsSaveNothing();
         refusedCallsSaveNothing();
         aRunWithAFaultSavesNothing();
@@ -124,6 +125,9 @@ final class EdgeUndoTest {
             x.tick(some);
             Traces.tellValues(x, told);
         }
+        for (int host = 0; host < 8; host++) {
+            told.add(x.moveHost(host, 0));
+        }
         return told;
     }
 
@@ -150,6 +154,29 @@ final class EdgeUndoTest {
             x.undo();
             check.due("lower timer after undo", x.port(0, false, 2), timers[time - 1]);
             check.due("higher timer after undo", x.port(0, true, 2), timers[time - 1]);
+        }
+    }
+
+    private static void timesOfEntriesComeBack() {
+        BridgeAuction x = new BridgeAuction();
+        x.setBridges(8);
+        x.setTimes(1, 100, 5);
+        for (int bridge = 0; bridge < 7; bridge++) {
+            x.addLink(bridge, bridge + 1, 1);
+        }
+        x.tick(11);
+        x.send(7, 0);
+        x.tick(20);
+        x.send(7, 0);
+        x.undo();
+        x.tick(30);
+        for (int bridge = 0; bridge < 7; bridge++) {
+            check.due("50 ticks after the first frame", x.entry(bridge, 7), bridge);
+        }
+        x.tick(1);
+        for (int bridge = 0; bridge < 8; bridge++) {
+            check.due("the second one was undone", x.entry(bridge, 7), BridgeAuction.NONE);
+            check.due("entries", x.bridge(bridge, 5), 1);
         }
     }
 
