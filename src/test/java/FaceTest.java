@@ -5,8 +5,12 @@ import java.lang.reflect.Method;
 import java.lang.reflect.Modifier;
 import java.nio.file.Files;
 import java.nio.file.Path;
+import java.util.ArrayList;
+import java.util.List;
 import java.util.Set;
 import java.util.TreeSet;
+import java.util.regex.Matcher;
+import java.util.regex.Pattern;
 
 /** The public face, and the rules of LANGUAGE.md that a look at the class or its text can find. */
 final class FaceTest {
@@ -34,7 +38,9 @@ final class FaceTest {
         checkMethods();
         checkFields();
         checkNested();
+        checkSizes();
         checkText();
+        checkMethodLengths();
         check.finish();
     }
 
@@ -99,6 +105,44 @@ final class FaceTest {
                         Modifier.isStatic(flags) && !Modifier.isFinal(flags), false);
             }
         }
+    }
+
+    private static void checkSizes() {
+        for (Class<?> c : allClasses()) {
+            int held = 0;
+            for (Field f : c.getDeclaredFields()) {
+                held += Modifier.isStatic(f.getModifiers()) ? 0 : 1;
+            }
+            check.due(c + " has at most twenty fields", held <= 20, true);
+            for (Method m : c.getDeclaredMethods()) {
+                check.due(m + " takes at most seven parameters", m.getParameterCount() <= 7, true);
+            }
+        }
+    }
+
+    private static List<Class<?>> allClasses() {
+        List<Class<?>> all = new ArrayList<>(List.of(BridgeAuction.class.getDeclaredClasses()));
+        all.add(BridgeAuction.class);
+        return all;
+    }
+
+    /** A method ends with a brace that stands as far in as its first line. */
+    private static void checkMethodLengths() throws IOException {
+        List<String> lines = Files.readAllLines(Path.of("src/main/java/BridgeAuction.java"));
+        Pattern head = Pattern.compile("( {4}| {8})[A-Za-z].*\\(.*[^;]");
+        int methods = 0;
+        for (int i = 0; i < lines.size(); i++) {
+            Matcher found = head.matcher(lines.get(i));
+            if (found.matches() && !lines.get(i).contains("=")) {
+                int end = i + 1;
+                while (end < lines.size() && !lines.get(end).equals(found.group(1) + "}")) {
+                    end++;
+                }
+                methods++;
+                check.due("at most sixty lines: " + lines.get(i), end - i < 60, true);
+            }
+        }
+        check.due("methods were found", methods > 26, true);
     }
 
     private static void checkText() throws IOException {
